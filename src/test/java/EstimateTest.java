@@ -328,6 +328,13 @@ public final class EstimateTest {
         x.setArms(6);
         x.setWeight(5, 5, 99);
         CHECK.same("21: of six arms", x.busiestTurn(), 55);
+        x.setWeight(5, 5, 1);
+        for (int from = 0; from < 6; from++) {
+            x.setInflow(from, from == 0 ? 0 : 5);
+        }
+        x.setOutflow(5, 1);
+        x.iterate(1);
+        CHECK.same("21: of five estimates of a fifth", x.busiestTurn(), 15);
     }
 
     /** The longest run of rounds that an object can see, with contradictory and with edgy counts. */
