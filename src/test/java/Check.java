@@ -4,12 +4,30 @@ final class Check {
         void run();
     }
 
+    interface Setup {
+        TurnEstimator make();
+    }
+
+    interface Use {
+        void on(TurnEstimator x);
+    }
+
     private final String test;
+    private String part = "";
     private int looked = 0;
     private int wrong = 0;
 
     Check(String test) {
         this.test = test;
+    }
+
+    /** What is looked at from now on belongs to this part of the test. */
+    void begin(String name) {
+        part = name + ": ";
+    }
+
+    int looked() {
+        return looked;
     }
 
     void same(String call, long got, long due) {
@@ -27,7 +45,10 @@ final class Check {
     }
 
     void same(String call, boolean got, boolean due) {
-        same(call, got ? 1L : 0L, due ? 1L : 0L);
+        looked++;
+        if (got != due) {
+            tell(call + " answered " + got + ", due is " + due);
+        }
     }
 
     void near(String call, double got, double due, double most) {
@@ -44,11 +65,19 @@ final class Check {
         }
     }
 
-    /** The call throws exactly this exception, and changes nothing of the estimator. */
-    void refused(String call, TurnEstimator x, Class<?> due, Call body) {
-        String before = state(x);
+    void thrown(String call, Class<?> due, Call body) {
         same(call, thrownBy(body), due.getSimpleName());
-        same(call + ": the state behind it", state(x), before);
+    }
+
+    /**
+     * The call throws exactly this exception, and leaves an object behind that answers like a twin
+     * which has never seen the call.
+     */
+    void refused(String call, Setup setup, Class<?> due, Use use) {
+        TurnEstimator x = setup.make();
+        TurnEstimator twin = setup.make();
+        thrown(call, due, () -> use.on(x));
+        same(call + ": the state behind it", state(x), state(twin));
     }
 
     static String thrownBy(Call body) {
@@ -60,7 +89,7 @@ final class Check {
         }
     }
 
-    /** All that can be asked of an estimator, in one text. */
+    /** All that can be asked of an estimator, in one text, by at most 177 calls. */
     static String state(TurnEstimator x) {
         StringBuilder text = new StringBuilder();
         int n = x.arms();
@@ -91,7 +120,7 @@ final class Check {
     private void tell(String text) {
         wrong++;
         if (wrong <= 40) {
-            System.out.println(test + ": " + text);
+            System.out.println(test + ": " + part + text);
         }
     }
 }

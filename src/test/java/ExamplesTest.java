@@ -42,15 +42,15 @@ public final class ExamplesTest {
     }
 
     private static void example3(TurnEstimator x) {
-        CHECK.refused("3: setWeight(0, 4, 1)", x, IndexOutOfBoundsException.class, () -> x.setWeight(0, 4, 1));
-        CHECK.refused("3: setWeight(0, 1, 100)", x, IllegalArgumentException.class, () -> x.setWeight(0, 1, 100));
-        CHECK.refused("3: setInflow(0, 10000)", x, IllegalArgumentException.class, () -> x.setInflow(0, 10000));
+        CHECK.thrown("3: setWeight(0, 4, 1)", IndexOutOfBoundsException.class, () -> x.setWeight(0, 4, 1));
+        CHECK.thrown("3: setWeight(0, 1, 100)", IllegalArgumentException.class, () -> x.setWeight(0, 1, 100));
+        CHECK.thrown("3: setInflow(0, 10000)", IllegalArgumentException.class, () -> x.setInflow(0, 10000));
         CHECK.same("3: crossRatio(0, 1, 2, 3)", x.crossRatio(0, 1, 2, 3), 1.0);
-        CHECK.refused("3: crossRatio(0, 1, 1, 3)", x, ArithmeticException.class, () -> x.crossRatio(0, 1, 1, 3));
+        CHECK.thrown("3: crossRatio(0, 1, 1, 3)", ArithmeticException.class, () -> x.crossRatio(0, 1, 1, 3));
         CHECK.same("3: crossRatio(0, 1, 3, 1)", x.crossRatio(0, 1, 3, 1), 0.0);
-        CHECK.refused("3: scale(301)", x, IllegalArgumentException.class, () -> x.scale(301));
+        CHECK.thrown("3: scale(301)", IllegalArgumentException.class, () -> x.scale(301));
         CHECK.same("3: setInflow(2, 9999)", x.setInflow(2, 9999), 0);
-        CHECK.refused("3: scale(101)", x, IllegalStateException.class, () -> x.scale(101));
+        CHECK.thrown("3: scale(101)", IllegalStateException.class, () -> x.scale(101));
         CHECK.same("3: scale(50)", x.scale(50), 5000);
         CHECK.same("3: rounded(2, 0)", x.rounded(2, 0), 1667);
         CHECK.same("3: share(0, 0)", x.share(0, 0), 0.0);

@@ -1,14 +1,10 @@
-/** Promises 9, 10, 11 and 24: possible counts, crowded sets, the greatest possible table. */
+/** Promises 9, 10, 11 and 24 with ordinary inputs; their boundary cases are in PossibleBoundaries. */
 public final class PossibleTest {
     private static final Check CHECK = new Check("PossibleTest");
 
     public static void main(String[] args) {
         balanceAlone();
         crowdedSets();
-        excess();
-        lexicographicallyGreatest();
-        notPossible();
-        possibleRefuses();
         everySmallJunction();
         CHECK.end();
     }
@@ -70,58 +66,6 @@ public final class PossibleTest {
         }
     }
 
-    private static void excess() {
-        TurnEstimator x = new TurnEstimator();
-        x.setArms(3);
-        x.setInflow(0, 10);
-        x.setInflow(1, 20);
-        x.setInflow(2, 40);
-        x.setOutflow(0, 100);
-        x.setOutflow(1, 200);
-        x.setOutflow(2, 400);
-        int[] due = {0, 10 - 600, 20 - 500, 30 - 700, 40 - 300, 50 - 700, 60 - 700, 70 - 700};
-        for (int set = 0; set < 8; set++) {
-            CHECK.same("11: excess(" + set + ")", x.excess(set), due[set]);
-        }
-        x.setWeight(2, 0, 0);
-        x.setWeight(2, 1, 0);
-        CHECK.same("11: no turn", x.excess(4), 40);
-        CHECK.same("11: of two arms one has a turn", x.excess(5), 50 - 600);
-        x.iterate(3);
-        int[] wrong = {8, -1, 15, 16, 64, Integer.MAX_VALUE, Integer.MIN_VALUE};
-        for (int set : wrong) {
-            CHECK.refused("11: excess(" + set + ")", x, IllegalArgumentException.class, () -> x.excess(set));
-        }
-        x.setArms(6);
-        CHECK.same("11: excess(63)", x.excess(63), 0);
-        CHECK.refused("11: excess(64)", x, IllegalArgumentException.class, () -> x.excess(64));
-    }
-
-    private static void lexicographicallyGreatest() {
-        TurnEstimator x = new TurnEstimator();
-        x.setArms(3);
-        x.setWeight(0, 0, 1);
-        x.setWeight(1, 1, 1);
-        counts(x, new int[] {5, 5, 5}, new int[] {6, 4, 5});
-        // Arm 2 cannot lead to itself, so arms 0 and 1 must leave 5 of the first two outflows.
-        table("24: all but one turn", x, new int[] {5, 0, 0, 0, 0, 5, 1, 4, 0});
-        x.setWeight(1, 2, 0);
-        table("24: arm 1 cannot lead to arm 2", x, new int[] {0, 0, 5, 5, 0, 0, 1, 4, 0});
-        x.setWeight(2, 1, 0);
-        counts(x, new int[] {5, 5, 5}, new int[] {7, 5, 3});
-        table("24: arm 2 leads to arm 0 alone", x, new int[] {2, 0, 3, 0, 5, 0, 5, 0, 0});
-        x.iterate(7);
-        table("24: rounds change nothing", x, new int[] {2, 0, 3, 0, 5, 0, 5, 0, 0});
-        CHECK.same("24: nor does possible", x.rounds(), 7);
-    }
-
-    private static void counts(TurnEstimator x, int[] in, int[] out) {
-        for (int arm = 0; arm < in.length; arm++) {
-            x.setInflow(arm, in[arm]);
-            x.setOutflow(arm, out[arm]);
-        }
-    }
-
     private static void table(String what, TurnEstimator x, int[] due) {
         int n = x.arms();
         for (int from = 0; from < n; from++) {
@@ -131,41 +75,16 @@ public final class PossibleTest {
         }
     }
 
-    private static void notPossible() {
-        TurnEstimator x = new TurnEstimator();
-        x.setArms(3);
-        int none = TurnEstimator.NONE;
-        x.setOutflow(2, 1);
-        table("24: imbalance", x, new int[] {none, none, none, none, none, none, none, none, none});
-        x.setInflow(2, 1);
-        table("24: a crowded set", x, new int[] {none, none, none, none, none, none, none, none, none});
-        x.setWeight(2, 2, 1);
-        table("24: the turn back", x, new int[] {0, 0, 0, 0, 0, 0, 0, 0, 1});
-    }
-
-    private static void possibleRefuses() {
-        TurnEstimator x = new TurnEstimator();
-        x.iterate(2);
-        int[] wrong = {4, -1, 5, 6, 7, Integer.MAX_VALUE, Integer.MIN_VALUE};
-        for (int arm : wrong) {
-            CHECK.refused("24: from " + arm, x, IndexOutOfBoundsException.class, () -> x.possible(arm, 0));
-            CHECK.refused("24: to " + arm, x, IndexOutOfBoundsException.class, () -> x.possible(0, arm));
-        }
-        x.setInflow(0, 1);
-        CHECK.refused("24: impossible and no arm", x, IndexOutOfBoundsException.class, () -> x.possible(0, 4));
-    }
-
     /** All junctions of three arms with these few counts and all sets of barred turns. */
     private static void everySmallJunction() {
         int[][] someCounts = {
             {1, 1, 1, 1, 1, 1}, {2, 1, 0, 1, 1, 1}, {0, 3, 1, 2, 1, 1}, {2, 2, 1, 0, 2, 3},
             {1, 2, 2, 2, 2, 1}, {3, 0, 0, 1, 0, 2}, {2, 2, 2, 1, 2, 2}, {1, 0, 0, 2, 0, 0},
         };
-        TurnEstimator x = new TurnEstimator();
         for (int[] c : someCounts) {
-            x.setArms(3);
-            counts(x, new int[] {c[0], c[1], c[2]}, new int[] {c[3], c[4], c[5]});
             for (int open = 0; open < 512; open++) {
+                TurnEstimator x = Junctions.fresh(3);
+                Junctions.counts(x, new int[] {c[0], c[1], c[2]}, new int[] {c[3], c[4], c[5]});
                 for (int turn = 0; turn < 9; turn++) {
                     x.setWeight(turn / 3, turn % 3, (open >> turn) & 1);
                 }

@@ -4,7 +4,8 @@ import java.lang.management.ManagementFactory;
 /** No call that throws nothing makes an object: all calls of one run share one small room. */
 public final class RoomTest {
     private static final Check CHECK = new Check("RoomTest");
-    private static final int TIMES = 4000;
+    private static final int OBJECTS = 10;
+    private static final int TIMES = 400;
     private static double sink = 0.0;
 
     public static void main(String[] args) {
@@ -13,18 +14,20 @@ public final class RoomTest {
             return;
         }
         long id = Thread.currentThread().getId();
-        TurnEstimator x = new TurnEstimator();
-        x.setArms(6);
         for (int call = 0; call < 24; call++) {
-            once(x, call);
+            TurnEstimator[] objects = new TurnEstimator[OBJECTS];
+            for (int k = 0; k < OBJECTS; k++) {
+                objects[k] = Junctions.fresh(6);
+                once(objects[k], call);
+            }
             bean.getThreadAllocatedBytes(id);
             long before = bean.getThreadAllocatedBytes(id);
-            for (int k = 0; k < TIMES; k++) {
-                once(x, call);
+            for (int k = 0; k < OBJECTS * TIMES; k++) {
+                once(objects[k % OBJECTS], call);
             }
             long bytes = bean.getThreadAllocatedBytes(id) - before;
             // The least object has 16 bytes; the bean's own few do not count.
-            CHECK.same("call " + call + " makes no object", bytes < 8L * TIMES, true);
+            CHECK.same("call " + call + " makes no object", bytes < 8L * OBJECTS * TIMES, true);
         }
         CHECK.same("the answers were used", sink == sink, true);
         CHECK.end();
