@@ -16,6 +16,7 @@ final class Check {
     private String part = "";
     private int looked = 0;
     private int wrong = 0;
+    private int told = 0;
 
     Check(String test) {
         this.test = test;
@@ -24,6 +25,7 @@ final class Check {
     /** What is looked at from now on belongs to this part of the test. */
     void begin(String name) {
         part = name + ": ";
+        told = 0;
     }
 
     int looked() {
@@ -119,7 +121,8 @@ final class Check {
 
     private void tell(String text) {
         wrong++;
-        if (wrong <= 40) {
+        told++;
+        if (told <= 20) {
             System.out.println(test + ": " + part + text);
         }
     }

@@ -36,13 +36,14 @@ final class CountsBoundaries {
 
     @Says("Creates an estimator with a new junction of 4 arms.")
     static void promise01ObjectsShareNothing(Check check) {
+        String fresh = Check.state(new TurnEstimator());
         TurnEstimator early = new TurnEstimator();
         TurnEstimator changed = Junctions.busy(6);
+        check.same("an object that was made before the changes", Check.state(early), fresh);
+        String before = Check.state(changed);
         TurnEstimator late = new TurnEstimator();
-        check.same("made before the changes", Check.state(early), Check.state(late));
-        newJunction(check, "made behind them", late, 4);
-        check.same("the other one keeps its arms", changed.arms(), 6);
-        check.same("and its rounds", changed.rounds(), 2);
+        check.same("the changes, behind a new object", Check.state(changed), before);
+        newJunction(check, "the new object", late, 4);
     }
 
     /** Looks at everything that is said of a new junction; it leaves the weights 0. */
@@ -364,6 +365,24 @@ final class CountsBoundaries {
         check.same("weight 0 twice: excess(4)", x.excess(4), 7);
         x.setWeight(2, 0, 1);
         check.same("weight 1 again: excess(4)", x.excess(4), 0);
+    }
+
+    @Says({"A turn leads from an arm to an arm (also to the same one).", "A turn with the weight 0 is barred."})
+    static void promise06TurnsBack(Check check) {
+        for (int n = 3; n <= 6; n++) {
+            for (int arm = 0; arm < n; arm++) {
+                String what = n + " arms, arm " + arm;
+                TurnEstimator x = Junctions.fresh(n);
+                x.setInflow(arm, 5);
+                x.setOutflow(arm, 5);
+                check.same(what + ", barred at first", x.excess(1 << arm), 5);
+                check.same(what + ", weight 1", x.setWeight(arm, arm, 1), 0);
+                check.same(what + ", open", x.excess(1 << arm), 0);
+                check.same(what + ", possible", x.possible(arm, arm), 5);
+                check.same(what + ", weight 0", x.setWeight(arm, arm, 0), 1);
+                check.same(what + ", barred again", x.excess(1 << arm), 5);
+            }
+        }
     }
 
     @Says("and it is reset by each call of setArms, setWeight, setInflow, setOutflow and scale that throws no exception.")

@@ -18,6 +18,23 @@ final class EstimateBoundaries {
         return x;
     }
 
+    /**
+     * Arm 0 sends a 496th of its one vehicle to arm 5, where one of about 49996 vehicles leaves: the
+     * estimate of that turn, and with it the row sum, is about 4e-8, near the least that there can be.
+     */
+    static TurnEstimator tinyRowSum() {
+        TurnEstimator x = Junctions.barred(6);
+        Junctions.weightsFrom(x, 0, 99, 99, 99, 99, 99, 1);
+        x.setInflow(0, 1);
+        for (int from = 1; from < 6; from++) {
+            x.setWeight(from, 5, 1);
+            x.setInflow(from, 9999);
+        }
+        x.setOutflow(5, 1);
+        x.iterate(1);
+        return x;
+    }
+
     private static void allEstimates(Check check, String what, TurnEstimator x, double due) {
         int n = x.arms();
         for (int from = 0; from < n; from++) {
@@ -95,6 +112,26 @@ final class EstimateBoundaries {
                 check.same("estimate of turn " + turn, x.estimate(turn / 3, turn % 3), due[turn]);
             }
         }
+    }
+
+    @Says("If the sum is not greater than 0.0, the step does nothing.)")
+    static void promise12SumsThatAreTiny(Check check) {
+        TurnEstimator x = tinyRowSum();
+        double tiny = x.sum(0, false);
+        check.same("a row sum", tiny > 0.0 && tiny < 1e-7, true);
+        x.setOutflow(5, 0);
+        x.setOutflow(4, 9999);
+        x.setWeight(0, 4, 1);
+        x.iterate(1);
+        check.near("a column that gets 9999 of a 398th", x.estimate(0, 4), 9999.0, 1e-9);
+        TurnEstimator y = tinyRowSum();
+        y.iterate(1);
+        double row = tiny * (1 / tiny);
+        double column = 0.0 + row;
+        for (int from = 1; from < 6; from++) {
+            column += tinyRowSum().estimate(from, 5) * (9999 / tinyRowSum().sum(from, false));
+        }
+        check.same("the row step of a tiny sum", y.estimate(0, 5), row * (1 / column));
     }
 
     @Says({"A row step multiplies the estimates of all turns from an arm by its row factor: the inflow divided by the row"
@@ -186,7 +223,7 @@ final class EstimateBoundaries {
     static void promise13TheBoundIsReachedAtTheLimit(Check check) {
         TurnEstimator x = Junctions.busy(4);
         int needed = 0;
-        while (x.misfit() > 0.001) {
+        while (needed < 99 && x.misfit() > 0.001) {
             x.iterate(1);
             needed++;
         }
@@ -481,6 +518,22 @@ final class EstimateBoundaries {
         }
     }
 
+    @Says("The misfit of the estimate is the greatest value of the absolute differences of row sum and inflow, and of"
+        + " column sum and outflow, over all arms.")
+    static void promise18LessThanOneVehicle(Check check) {
+        TurnEstimator x = contradictory();
+        x.iterate(1);
+        check.same("a row half a vehicle below", x.misfit(), 0.5);
+        TurnEstimator y = Junctions.barred(4);
+        Junctions.weightsFrom(y, 0, 0, 1, 1, 0);
+        y.setWeight(1, 2, 1);
+        y.setWeight(3, 2, 1);
+        Junctions.counts(y, new int[] {1, 1, 0, 1}, new int[] {0, 1, 2, 0});
+        y.iterate(1);
+        check.same("a row two fifths above", y.misfit(), (1.0 + 0.5 * (2 / 2.5)) - 1.0);
+        check.same("of a tiny row sum", tinyRowSum().misfit() > 9998.0, true);
+    }
+
     // ---- promise 19
 
     @Says({"Returns the share of a turn in the traffic that enters by its arm.",
@@ -515,6 +568,9 @@ final class EstimateBoundaries {
         check.same("8.0 of 13.0", x.share(0, 1), 8.0 / 13.0);
         check.same("3.0 of 3.0", x.share(1, 2), 1.0);
         check.same("an inflow of 0", x.share(2, 1), 0.0);
+        TurnEstimator tiny = tinyRowSum();
+        check.same("a tiny row sum, the open turn", tiny.share(0, 5), 1.0);
+        check.same("a tiny row sum, another turn", tiny.share(0, 4), 0.0);
     }
 
     @Says({"arm number", "Throws `IndexOutOfBoundsException` if one of the arms does not exist"})
@@ -662,13 +718,13 @@ final class EstimateBoundaries {
     @Says("Returns the turn with the greatest estimate.")
     static void promise21EstimatesBelowOne(Check check) {
         TurnEstimator x = Junctions.barred(6);
-        for (int from = 1; from < 6; from++) {
+        for (int from = 0; from < 6; from++) {
             x.setWeight(from, 5, 1);
             x.setInflow(from, 5);
         }
         x.setOutflow(5, 1);
         x.iterate(1);
-        check.same("five estimates of a fifth", x.busiestTurn(), 15);
+        check.same("six estimates of a sixth", x.busiestTurn(), 5);
         x.setInflow(3, 6);
         x.iterate(1);
         check.same("one is a little greater", x.busiestTurn(), 35);

@@ -65,6 +65,25 @@ final class RoundingBoundaries {
         }
     }
 
+    @Says("For each arm with a row sum s greater than 0.0, let x be (the estimate of a turn from it) * (its inflow) / s,"
+        + " computed from left to right.")
+    static void promise22ATinyRowSum(Check check) {
+        TurnEstimator x = EstimateBoundaries.tinyRowSum();
+        check.same("the row sum", x.sum(0, false) > 0.0 && x.sum(0, false) < 1e-7, true);
+        row(check, "one vehicle", x, 0, 0, 0, 0, 0, 0, 1);
+        row(check, "9999 vehicles", x, 1, 0, 0, 0, 0, 0, 9999);
+        TurnEstimator two = Junctions.barred(6);
+        for (int from = 0; from < 6; from++) {
+            Junctions.weightsFrom(two, from, 0, 1, 0, 0, 1, 0);
+            two.setInflow(from, from == 3 ? 5 : 9999);
+        }
+        two.setOutflow(1, 1);
+        two.setOutflow(4, 1);
+        two.iterate(1);
+        check.same("the row sum", two.sum(3, false) > 0.0 && two.sum(3, false) < 1e-3, true);
+        row(check, "five vehicles, 2.5 and 2.5", two, 3, 0, 3, 0, 0, 2, 0);
+    }
+
     @Says("Each turn from the arm gets x rounded down.")
     static void promise22WholeNumbersStay(Check check) {
         TurnEstimator x = Junctions.fresh(4);
