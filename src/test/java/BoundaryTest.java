@@ -1,8 +1,6 @@
 import java.io.IOException;
 import java.lang.reflect.InvocationTargetException;
 import java.lang.reflect.Method;
-import java.nio.file.Files;
-import java.nio.file.Path;
 import java.util.ArrayList;
 import java.util.Arrays;
 import java.util.Comparator;
@@ -15,7 +13,6 @@ import java.util.List;
  */
 public final class BoundaryTest {
     private static final Check CHECK = new Check("BoundaryTest");
-    private static final Path DOCUMENT = Path.of("../shared/DOC.md");
     private static final int PROMISES = 25;
     private static final Class<?>[] CASES = {
         CountsBoundaries.class, PossibleBoundaries.class, EstimateBoundaries.class, RoundingBoundaries.class,
@@ -27,10 +24,8 @@ public final class BoundaryTest {
             run(method);
         }
         CHECK.begin("the document");
-        if (Files.exists(DOCUMENT)) {
-            sentences(Files.readString(DOCUMENT), cases);
-        } else {
-            System.out.println("BoundaryTest: the document is not here, so its sentences were not looked up");
+        if (Document.isHere("BoundaryTest")) {
+            sentences(cases);
         }
         CHECK.end();
     }
@@ -64,11 +59,11 @@ public final class BoundaryTest {
         return Integer.parseInt(method.getName().substring("promise".length(), "promise".length() + 2));
     }
 
-    private static void sentences(String document, List<Method> cases) {
-        String description = section(document, "## Description");
-        String whatItIs = section(document, "## What it is");
+    private static void sentences(List<Method> cases) throws IOException {
+        String description = Document.section("## Description");
+        String whatItIs = Document.section("## What it is");
         for (int promise = 1; promise <= PROMISES; promise++) {
-            String said = section(document, "## Promise " + promise + ":");
+            String said = Document.section("## Promise " + promise + ":");
             List<String> named = named(cases, promise);
             for (String sentence : named) {
                 boolean stands = said.contains(sentence) || description.contains(sentence) || whatItIs.contains(sentence);
@@ -91,16 +86,6 @@ public final class BoundaryTest {
         }
         named.sort(Comparator.comparing(String::length).reversed());
         return named;
-    }
-
-    private static String section(String document, String heading) {
-        int start = document.indexOf(heading);
-        if (start < 0) {
-            return "";
-        }
-        int body = document.indexOf('\n', start);
-        int end = document.indexOf("\n## ", body);
-        return document.substring(body, end < 0 ? document.length() : end);
     }
 
     /** Strikes out what is named; headings of paragraphs, signatures and parameters' names may stay. */

@@ -1,11 +1,17 @@
-/** The three examples of the section "Description", call by call. */
+import java.io.IOException;
+
+/** The three examples of the section "Description", call by call, and once more from its own words. */
 public final class ExamplesTest {
     private static final Check CHECK = new Check("ExamplesTest");
+    private static final int[] CALLS = {14, 12, 12};
 
-    public static void main(String[] args) {
+    public static void main(String[] args) throws IOException, IllegalAccessException {
         example1(new TurnEstimator());
         example2(new TurnEstimator());
         example3(new TurnEstimator());
+        if (Document.isHere("ExamplesTest")) {
+            asTheDocumentWritesThem();
+        }
         CHECK.end();
     }
 
@@ -54,5 +60,22 @@ public final class ExamplesTest {
         CHECK.same("3: scale(50)", x.scale(50), 5000);
         CHECK.same("3: rounded(2, 0)", x.rounded(2, 0), 1667);
         CHECK.same("3: share(0, 0)", x.share(0, 0), 0.0);
+    }
+
+    private static void asTheDocumentWritesThem() throws IOException, IllegalAccessException {
+        String description = Document.section("## Description");
+        for (int example = 1; example <= CALLS.length; example++) {
+            int start = description.indexOf("\n" + example + ". ") + 1;
+            CHECK.same("the document has example " + example, start > 0, true);
+            String line = description.substring(start, (description + "\n").indexOf('\n', start));
+            String[] calls = line.substring(line.indexOf(": ") + 2).split("[;.]( |$)");
+            CHECK.same("the calls of example " + example, calls.length, CALLS[example - 1]);
+            TurnEstimator x = new TurnEstimator();
+            for (String call : calls) {
+                String[] parts = call.split(" = ");
+                String due = parts.length == 2 ? parts[1] : "written behind it";
+                CHECK.same(example + ": " + call, Calls.answer(x, parts[0]), due);
+            }
+        }
     }
 }

@@ -1,3 +1,4 @@
+import java.io.IOException;
 import java.lang.reflect.Constructor;
 import java.lang.reflect.Executable;
 import java.lang.reflect.Field;
@@ -39,13 +40,16 @@ public final class FaceTest {
         "long digest()",
     };
 
-    public static void main(String[] args) {
+    public static void main(String[] args) throws IOException {
         Class<?> face = TurnEstimator.class;
         CHECK.same("modifiers of the class", Modifier.toString(face.getModifiers()), "public final");
         CHECK.same("NONE", TurnEstimator.NONE, -1);
         methods(face);
         constructors(face);
         fields(face);
+        if (Document.isHere("FaceTest")) {
+            asTheDocumentWritesIt();
+        }
         CHECK.end();
     }
 
@@ -105,5 +109,30 @@ public final class FaceTest {
             text.append(text.length() == 0 ? "" : ",").append(type.getSimpleName());
         }
         return text.toString();
+    }
+
+    /** Every line of the document's face, and the signature of every promise, is looked for in the class. */
+    private static void asTheDocumentWritesIt() throws IOException {
+        String section = Document.section("## The public face");
+        CHECK.same("the class", section.contains("public final class TurnEstimator {"), true);
+        Set<String> known = new HashSet<>(List.of(FACE));
+        known.add("static final int NONE = -1");
+        known.add("TurnEstimator()");
+        String braces = section.substring(section.indexOf('{') + 1, section.lastIndexOf('}'));
+        for (String line : braces.strip().split("\n")) {
+            String signature = line.strip().replaceAll("^public |;$", "");
+            CHECK.same("the document's line " + signature + " is looked for", known.remove(withoutNames(signature)), true);
+        }
+        CHECK.same("what the document does not have", known.toString(), "[]");
+        for (int promise = 2; promise < FACE.length + 2; promise++) {
+            String said = Document.section("## Promise " + promise + ":");
+            String signature = said.substring(said.indexOf('`') + 1, said.indexOf('`', said.indexOf('`') + 1));
+            CHECK.same("the signature of promise " + promise, withoutNames(signature), FACE[promise - 2]);
+        }
+    }
+
+    private static String withoutNames(String signature) {
+        String types = signature.replaceAll("(int|boolean) \\w+(, |\\))", "$1$2");
+        return types.replace(", ", ",").replace(" throws ", " ");
     }
 }

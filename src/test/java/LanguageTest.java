@@ -1,7 +1,10 @@
 import java.io.IOException;
 import java.nio.file.Files;
 import java.nio.file.Path;
+import java.util.ArrayList;
+import java.util.LinkedHashMap;
 import java.util.List;
+import java.util.Map;
 import java.util.regex.Matcher;
 import java.util.regex.Pattern;
 
@@ -9,6 +12,10 @@ import java.util.regex.Pattern;
 public final class LanguageTest {
     private static final Check CHECK = new Check("LanguageTest");
     private static final Path SOURCE = Path.of("src/main/java/TurnEstimator.java");
+
+    /** A method's or the constructor's name, its parameters and its body. */
+    private static final Pattern METHOD = Pattern.compile("\n    (?:public|private) (?:static )?(?:\\w+ )?(\\w+)"
+        + "\\(([^)]*)\\)[^{;=]*\\{(.*?)\n    \\}", Pattern.DOTALL);
 
     private static final String[] RULED_OUT = {
         "\\bpackage\\b", "\\bimport\\b", "->", "::", "\\btry\\b", "\\bcatch\\b", "\\bfinally\\b", "\\bsynchronized\\b",
@@ -29,7 +36,9 @@ public final class LanguageTest {
         only("System calls", text, "\\bSystem\\.(\\w+)", "arraycopy");
         only("exceptions", text, "\\bthrow new (\\w+)",
             "IllegalArgumentException|IndexOutOfBoundsException|IllegalStateException|ArithmeticException");
+        CHECK.same("signs 1 to 127 alone", Files.readString(SOURCE).matches("[\\x01-\\x7f]*"), true);
         lengthsOfMethods(lines);
+        depthOfCalls(text.toString());
         CHECK.end();
     }
 
@@ -51,5 +60,36 @@ public final class LanguageTest {
             }
         }
         CHECK.same("methods were seen", start > 0, true);
+    }
+
+    /** No method calls itself, be it through others; parameters are at most seven, and calls eight deep. */
+    private static void depthOfCalls(String text) {
+        Map<String, String> bodies = new LinkedHashMap<>();
+        Matcher method = METHOD.matcher(text);
+        while (method.find()) {
+            CHECK.same("the parameters of " + method.group(1), method.group(2).split(",").length <= 7, true);
+            CHECK.same("there is one method " + method.group(1), bodies.put(method.group(1), method.group(3)) == null, true);
+        }
+        CHECK.same("methods were found", bodies.size() > 24, true);
+        for (String name : bodies.keySet()) {
+            int depth = depth(name, bodies, List.of());
+            CHECK.same("calls of " + name + " go " + depth + " deep", depth <= 8, true);
+        }
+    }
+
+    /** How many methods stand open at once, those of open and below it; far too many for a recursion. */
+    private static int depth(String name, Map<String, String> bodies, List<String> open) {
+        if (open.contains(name)) {
+            return 1000;
+        }
+        List<String> path = new ArrayList<>(open);
+        path.add(name);
+        int deepest = path.size();
+        for (String called : bodies.keySet()) {
+            if (Pattern.compile("(?<!new )\\b" + called + "\\(").matcher(bodies.get(name)).find()) {
+                deepest = Math.max(deepest, depth(called, bodies, path));
+            }
+        }
+        return deepest;
     }
 }

@@ -1,5 +1,3 @@
-import java.lang.reflect.InvocationTargetException;
-import java.lang.reflect.Method;
 import java.util.Arrays;
 
 /** Runs of 512 calls, wrong ones among them, the same on a TurnEstimator and on a SlowEstimator. */
@@ -122,19 +120,6 @@ public final class ReferenceTest {
         }
         callsLeft--;
         String what = "run " + run + ", call " + (CALLS - callsLeft) + ", " + name + Arrays.toString(arguments);
-        CHECK.same(what, answer(x, name, arguments), answer(slow, name, arguments));
-    }
-
-    private static String answer(Object object, String name, Object[] arguments) throws IllegalAccessException {
-        for (Method method : object.getClass().getDeclaredMethods()) {
-            if (method.getName().equals(name) && method.getReturnType() != void.class) {
-                try {
-                    return String.valueOf(method.invoke(object, arguments));
-                } catch (InvocationTargetException e) {
-                    return "throws " + e.getCause().getClass().getSimpleName();
-                }
-            }
-        }
-        return object.getClass().getName() + " has no such call";
+        CHECK.same(what, Calls.answer(x, name, arguments), Calls.answer(slow, name, arguments));
     }
 }
